@@ -977,7 +977,7 @@ public final class VoiceTonight {
         void passEvening(Night night, int role, boolean crackling) {
             boolean rung = false;
             if (hasRole(role) && !crackling) {
-                rung = isRungHearing(night, role);
+                rung = isRungHearing(night, role, saidBy(night, role));
                 night.heard[role]++;
             }
             for (int r = 0; r < roles; r++) {
@@ -995,8 +995,7 @@ public final class VoiceTonight {
          * LISTENERS hear a ROLE: whether it is rung up. No LAW looks at another LISTENER, so each
          * can move at once, all LAWS of theirs being told from what lookAt() found.
          */
-        private boolean isRungHearing(Night night, int role) {
-            int said = saidBy(night, role);
+        private boolean isRungHearing(Night night, int role, int said) {
             boolean rung = false;
             for (int l = 0; l < listeners; l++) {
                 if (night.isOn(l)) {
@@ -1561,26 +1560,26 @@ public final class VoiceTonight {
             }
             nights[0].become(now);
             for (int length = 0; length <= MOST_PLANNED; length++) {
-                if (reaches(text, wanted, 0, length)) {
+                if (reaches(text, wanted, nights, roles, 0, length)) {
                     return length;
                 }
             }
             return NOTHING_FITS;
         }
 
-        private boolean reaches(Text text, int wanted, int depth, int length) {
+        private static boolean reaches(Text text, int wanted, Night[] nights, int[] roles, int depth, int length) {
             if (depth >= length || depth >= MOST_PLANNED) {
                 return (text.doneBy(nights[depth]) & wanted) == wanted;
             }
+            Night next = nights[depth + 1];
             for (int r = 0; r < text.roles; r++) {
-                if (nights[depth].quiet[r] > 0) {
-                    continue;
-                }
-                roles[depth] = r;
-                nights[depth + 1].become(nights[depth]);
-                text.passEvening(nights[depth + 1], r, false);
-                if (reaches(text, wanted, depth + 1, length)) {
-                    return true;
+                if (nights[depth].quiet[r] == 0) {
+                    roles[depth] = r;
+                    next.become(nights[depth]);
+                    text.passEvening(next, r, false);
+                    if (reaches(text, wanted, nights, roles, depth + 1, length)) {
+                        return true;
+                    }
                 }
             }
             return false;
