@@ -18,6 +18,7 @@ public final class EdgesTest {
         justQuiet();
         leftOvers();
         longLaws();
+        longLawsAgain();
         D.end();
     }
 
@@ -67,10 +68,10 @@ public final class EdgesTest {
         x.evenings(1);
         D.due("QUIET is 3 anew", x.role(0, 3), 3);
         D.due("rung up", x.count(14), 1);
-        Dues.put(x, PLAIN);
-        x.read();
-        Dues.put(x, PLAIN);
-        x.read();
+        for (String text : new String[] {RICH, RICH, PLAIN, PLAIN}) {
+            Dues.put(x, text);
+            D.due("read()", x.read(), 0);
+        }
         isPlain(x);
     }
 
@@ -244,5 +245,14 @@ public final class EdgesTest {
         x = Dues.voice("role r 1 4; listener l 15 255 60; moves = 100-10*(10-8/(4-2*(5-4/(3-1*(2-1/(1*1)))))) ;");
         // 2-1=1, 3-1=2, 5-2=3, 4-6=-2, 10+4=14, 100-140
         D.due("a deep difference", x.tells(0, 0, 1), -40);
+    }
+
+    private static void longLawsAgain() {
+        VoiceTonight x = new VoiceTonight();
+        for (int i = 0; i < 6; i++) {
+            Dues.put(x, "role r 1 4; listener l 15 255 60; moves = " + i + "+1".repeat(180) + "-180;");
+            D.due("read()", x.read(), 0);
+            D.due("a long sum, read once more", x.tells(0, 0, 1), i);
+        }
     }
 }

@@ -103,6 +103,7 @@ public final class KnowledgeTest {
         D.due("never(-1)", x.never(-1), -1);
         x.inform(1, 3);
         D.due("never(1), informed", x.never(1), 0);
+        D.due("never of fact 0", Dues.voice("role b 6 1; listener l 0 255 1;").never(0), 249);
         D.due("never of no ROLES", Dues.voice("listener l 1 3 1;").never(0), 2);
     }
 
