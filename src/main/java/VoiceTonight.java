@@ -875,6 +875,14 @@ public final class VoiceTonight {
             return needed[listener] & ~night.known[listener];
         }
 
+        int lackedByAny(Night night, int wanted) {
+            int facts = 0;
+            for (int l = 0; l < listeners; l++) {
+                facts |= holds(wanted, l) ? lackedBy(night, l) : 0;
+            }
+            return facts;
+        }
+
         boolean hasDone(Night night, int listener) {
             return lackedBy(night, listener) == 0;
         }
@@ -1002,7 +1010,8 @@ public final class VoiceTonight {
                     lookAt(night, l, role, said);
                     rung = rung || isReally(l, role) && laws.tell(RINGS) > 0;
                     night.belief[l] = within(night.belief[l] + laws.tell(MOVES), 0, MOST_BELIEF);
-                    night.known[l] |= laws.tell(TRUSTS) > 0 ? said : 0;
+                    boolean isNews = (said & ~night.known[l]) != 0;
+                    night.known[l] |= isNews && laws.tell(TRUSTS) > 0 ? said : 0;
                 }
             }
             return rung;
@@ -1567,16 +1576,18 @@ public final class VoiceTonight {
             return NOTHING_FITS;
         }
 
+        /** The last ROLE of a row must KNOW all that is lacked still: most rows need not be tried out. */
         private static boolean reaches(Text text, int wanted, Night[] nights, int[] roles, int depth, int length) {
+            int lacked = text.lackedByAny(nights[depth], wanted);
             if (depth >= length || depth >= MOST_PLANNED) {
-                return (text.doneBy(nights[depth]) & wanted) == wanted;
+                return lacked == 0;
             }
-            Night next = nights[depth + 1];
+            boolean isLast = depth + 1 == length;
             for (int r = 0; r < text.roles; r++) {
-                if (nights[depth].quiet[r] == 0) {
+                if (nights[depth].quiet[r] == 0 && (!isLast || (lacked & ~text.knows[r]) == 0)) {
                     roles[depth] = r;
-                    next.become(nights[depth]);
-                    text.passEvening(next, r, false);
+                    nights[depth + 1].become(nights[depth]);
+                    text.passEvening(nights[depth + 1], r, false);
                     if (reaches(text, wanted, nights, roles, depth + 1, length)) {
                         return true;
                     }
