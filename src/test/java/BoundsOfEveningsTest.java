@@ -21,6 +21,8 @@ public final class BoundsOfEveningsTest {
         lawsByZero();
         lawsLookNoFurther();
         lawsOfOtherVars();
+        lawsOfVarsAtTheirEnds();
+        lawsBehindFourIfs();
         lawsNotTold();
         moreThanZero();
         movesHeld();
@@ -271,6 +273,54 @@ public final class BoundsOfEveningsTest {
         D.due("RINGS in evening 1", x.tells(1, 0, 2), 1);
     }
 
+    /** What MOVES by a VAR tells, of the first LISTENER and ROLE and of the last ones. */
+    private static void movesBy(String var, int first, int last) {
+        VoiceTonight x = Dues.voice(FULL.replace("role a 255 9", "role a 0 0").replace("listener u 255 255 99", "listener u 0 255 0")
+                + "really z f; moves = " + var + ";");
+        D.due("MOVES by " + var + " of the first ones", x.tells(0, 0, 1), first);
+        D.due("MOVES by " + var + " of the last ones", x.tells(5, 5, 1), last);
+    }
+
+    private static void lawsOfVarsAtTheirEnds() {
+        D.sentence(8, "fame, times of the ROLE; belief; known; parts; which; same (at their least and their most)");
+        movesBy("fame", 0, 9);
+        movesBy("times", 0, 0);
+        movesBy("fact", 0, 0);
+        movesBy("evening", 0, 0);
+        movesBy("belief", 0, 99);
+        movesBy("known", 0, 8);
+        movesBy("parts", 0, 8);
+        movesBy("which", 0, 5);
+        movesBy("same", 0, 1);
+        VoiceTonight x = Dues.voice(FULL + "says = 50 * (9 - fame) + 10 * which + times + fact - 56;");
+        D.due("SAYS of f by fact 7", x.role(5, 5), 128);
+        D.due("SAYS of e by none", x.role(4, 5), 0);
+        D.due("SAYS of b, which KNOWS none", x.role(1, 5), 0);
+        x.announce(5);
+        x.evenings(1);
+        D.due("SAYS of f by fact 6, 7", x.role(5, 5), 192);
+    }
+
+    private static void lawsBehindFourIfs() {
+        D.sentence(8, "the E of the first if that holds, else the last one (of four ifs, in each LAW)");
+        String never = "if 1 < 1 then 9 else ";
+        String longLaw = never.repeat(3) + "if 1 < 1 then 9 else ";
+        VoiceTonight x = Dues.voice("role r 3 1; listener l 0 1 1; says = " + longLaw + "fact; trusts = " + longLaw + "1; moves = " + longLaw + "8;");
+        D.due("SAYS", x.role(0, 5), 2);
+        D.due("TRUSTS", x.tells(0, 0, 0), 1);
+        D.due("MOVES", x.tells(0, 0, 1), 8);
+        x = Dues.voice("role r 3 1; listener l 0 1 1; really l r; says = 1; trusts = " + longLaw + "0; moves = " + longLaw + "0 - 8; rings = " + longLaw + "1;");
+        D.due("TRUSTS", x.tells(0, 0, 0), 0);
+        D.due("MOVES", x.tells(0, 0, 1), -8);
+        D.due("RINGS", x.tells(0, 0, 2), 1);
+        D.due("callers(0)", x.callers(0), 1);
+        Dues.put(x, "role r 3 1; listener l 0 1 1; rings = 1; moves = if 1 < 1 then 9 else 7; trusts = 1;");
+        D.due("read() of shorter LAWS", x.read(), 0);
+        D.due("TRUSTS", x.tells(0, 0, 0), 1);
+        D.due("MOVES", x.tells(0, 0, 1), 7);
+        D.due("RINGS", x.tells(0, 0, 2), 1);
+    }
+
     private static void lawsNotTold() {
         D.sentence(8, "LAWS: SAYS (1), TRUSTS (1), MOVES (0), RINGS (0), if not told; the last one.");
         VoiceTonight x = Dues.voice("role r 255 9; listener l 0 255 50; really l r;");
@@ -347,7 +397,9 @@ public final class BoundsOfEveningsTest {
         }
         D.unchanged("turn", x, before);
         D.sentence(10, "Switched ON or OFF: true");
+        D.due("listener(1, 3)", x.listener(1, 3), 1);
         D.due("turn(1, false), the last one ON", x.turn(1, false), true);
+        D.due("listener(1, 3)", x.listener(1, 3), 0);
         D.due("all OFF", x.count(6), 0);
         D.due("turn(0, true)", x.turn(0, true), true);
         D.due("turn(1, true)", x.turn(1, true), true);
@@ -541,9 +593,11 @@ public final class BoundsOfEveningsTest {
         D.due("QUIET this evening", x.role(0, 3), 0);
         x.evenings(1);
         D.due("QUIET the next one", x.role(0, 3), 1);
+        D.due("count(4)", x.count(4), 1);
         D.due("announce(0)", x.announce(0), false);
         x.evenings(1);
         D.due("QUIET no more", x.role(0, 3), 0);
+        D.due("count(4)", x.count(4), 0);
         D.due("announce(0)", x.announce(0), true);
     }
 
@@ -773,9 +827,10 @@ public final class BoundsOfEveningsTest {
             x.evenings(5);
             x.announce(1);
             x.turn(0, true);
-            x.turn(1, false);
             x.inform(0, 7);
             x.evenings(1);
+            x.turn(1, false);
+            D.due("rung up once more", x.count(14), 2);
             D.due("restore(1)", x.restore(1), true);
             D.unchanged("what came behind hold(1)", x, before);
             D.due("undo()", x.undo(), false);

@@ -50,6 +50,7 @@ public final class BoundsOfTextsTest {
         noSuchName();
         wrong();
         faultChangesNothing();
+        manyFaults();
         inPlaceOfTheOneAhead();
         D.endOf(1, 2, 3, 4, 5);
     }
@@ -664,6 +665,23 @@ public final class BoundsOfTextsTest {
             D.due("restore(1)", x.restore(1), true);
             D.due("announced", x.count(3), 0);
         }
+    }
+
+    private static void manyFaults() {
+        D.sentence(4, "A text with a FAULT changes nothing but the tape (one behind the other, then one without)");
+        String[] faulty = {"says=((((((", "moves=1+2*(3-4/(5+", "rings=if 1<2then 3else if 4<", "role a 1", "really a", SIX_ROLES + "role", "quiet 0;"};
+        VoiceTonight x = new VoiceTonight();
+        for (int i = 0; i < 35; i++) {
+            Dues.put(x, faulty[i % faulty.length]);
+            D.due("a FAULT of " + faulty[i % faulty.length], x.read() > 0, true);
+        }
+        Dues.put(x, "role r 1 4; listener l 15 255 60; moves = 1 + 2 * (3 + 4 * (5 - 6 / (1 + 1)));");
+        D.due("read() without", x.read(), 0);
+        D.due("place() without", x.place(), -1);
+        D.due("ROLES", x.count(0), 1);
+        D.due("TRUSTS", x.tells(0, 0, 0), 1);
+        D.due("MOVES", x.tells(0, 0, 1), 23);
+        D.due("RINGS", x.tells(0, 0, 2), 0);
     }
 
     private static void inPlaceOfTheOneAhead() {

@@ -238,6 +238,11 @@ public final class BoundsOfTrialsTest {
         x.inform(1, 3);
         planIs(x, -1);
         planIs(Dues.voice(SIX_ROLES), -1);
+        x = Dues.voice(SIX_ROLES + "listener l 0 3 1; listener m 0 3 1; listener n 2 3 1;");
+        planIs(x, -1, 0, 1);
+        x.turn(1, false);
+        noPlan(x, -1);
+        planIs(x, 2, 0);
     }
 
     private static void planOfAlike() {
