@@ -9,6 +9,7 @@ public final class BoundsOfToldTest {
     public static void main(String[] args) {
         tellFactOfNone();
         tellFactOfAll();
+        tellFactIsFull();
         tellDoneOfNone();
         tellDoneOfAll();
         mostTold();
@@ -55,6 +56,22 @@ public final class BoundsOfToldTest {
             D.due("who did not", x.who(1, 1), 63 - (fact < 5 ? 1 << fact : fact == 7 ? 32 : 0));
             x.forget();
         }
+    }
+
+    private static void tellFactIsFull() {
+        D.sentence(38, "NONE, and nothing happens: 20 are there");
+        VoiceTonight x = Dues.voice(TWO);
+        for (int i = 0; i < 20; i++) {
+            D.due("tellFact " + i, x.tellFact(0, true), i);
+        }
+        for (int fact = -1; fact <= 8; fact++) {
+            D.due("tellFact(" + fact + ", false), a 21st", x.tellFact(fact, false), -1);
+        }
+        D.due("count(10)", x.count(10), 20);
+        D.due("who(19, 1)", x.who(19, 1), 1);
+        D.due("who(20, 1)", x.who(20, 1), 1);
+        x.evenings(1);
+        D.due("tellFact, an evening on", x.tellFact(0, true), -1);
     }
 
     private static void tellDoneOfNone() {
